@@ -1,0 +1,782 @@
+/**
+ * Follows a player through a score, finds the best of all ways in which what was heard may have
+ * been meant, and keeps which notes are due again. The document's words in capitals (PLACE, NEXT,
+ * VALUE, ANCHOR, THE BEST ..) mean here what they mean there.
+ */
+public final class FollowScore {
+    public static final int NONE = -1, RANGE = -2, STATE = -3, FULL = -4;
+
+    private static final int MAX_NOTES = 60;
+    private static final int MAX_WAYS = 12;
+    private static final int MAX_EVENTS = 120;
+    private static final int MAX_PITCH = 127;
+    private static final int MAX_START = 1000000;
+    private static final int MAX_TIME = 10000000;
+    private static final int MAX_COST = 1000;
+    private static final int MAX_SPAN = 100;
+    private static final int MAX_BOX = 5;
+    private static final int FIRST_SPAN = 8;
+
+    /** The notes and -1: rows over places hold place p at p + 1. */
+    private static final int PLACES = MAX_NOTES + 1;
+    /** Each place has one note behind it at most; one more NEXT for the LOOP, and the WAYS. */
+    private static final int MAX_NEXTS = PLACES + 1 + MAX_WAYS;
+    /** Ahead of the STEP that takes an EVENT no place is passed twice, since each PASS costs. */
+    private static final int MAX_STEPS = MAX_EVENTS * PLACES;
+    /** Stands for no VALUE: far above any SUM, and no sum with it leaves the ints. */
+    private static final int NO_VALUE = 1000000000;
+
+    private static final int WRONG = 0, EXTRA = 1, SKIP = 2, WAY = 3, LEAP = 4;
+    private static final int[] FIRST_COSTS = {3, 2, 2, 1, 6};
+
+    private static final int KIND_PLAY = 0, KIND_EXTRA = 1, KIND_PASS = 2, KIND_LEAP = 3;
+
+    private final Score score;
+    private final Heard heard;
+    private final Nexts nexts;
+    private final Following following;
+    private final Anchors anchors;
+    private final Best best;
+    private final Boxes boxes;
+
+    public FollowScore() {
+        score = new Score();
+        heard = new Heard();
+        nexts = new Nexts(score);
+        following = new Following(score, nexts, heard);
+        anchors = new Anchors(score, heard);
+        best = new Best(score, nexts, heard);
+        boxes = new Boxes();
+    }
+
+    public void clear() {
+        score.empty();
+        boxes.session = 0;
+        hearNothing();
+    }
+
+    // ---- the score
+
+    public int note(int pitch, int start) {
+        if (!isWithin(pitch, 0, MAX_PITCH) || !isWithin(start, 0, MAX_START)) return RANGE;
+        if (start <= score.lastStart()) return RANGE;
+        if (heard.count > 0 || score.hasLoop()) return STATE;
+        if (score.notes >= MAX_NOTES) return FULL;
+        int number = score.addNote(pitch, start);
+        boxes.open(number);
+        return number;
+    }
+
+    public int way(int from, int to) {
+        if (!score.isNote(from) || !score.isNote(to)) return RANGE;
+        if (to == from + 1 || score.hasWay(from, to)) return RANGE;
+        if (heard.count > 0) return STATE;
+        if (score.ways >= MAX_WAYS) return FULL;
+        return score.addWay(from, to);
+    }
+
+    public int loop(int from, int to) {
+        boolean none = from == NONE;
+        if (!none && (!score.isNote(from) || !score.isNote(to) || to < from)) return RANGE;
+        if (heard.count > 0) return STATE;
+        int was = score.hasLoop() ? 1 : 0;
+        score.loopFirst = from;
+        score.loopLast = none ? NONE : to;
+        return was;
+    }
+
+    public int cost(int which, int v) {
+        if (!isWithin(which, WRONG, LEAP)) return RANGE;
+        int least = which == EXTRA || which == SKIP ? 1 : 0;
+        if (!isWithin(v, least, MAX_COST)) return RANGE;
+        if (heard.count > 0) return STATE;
+        int was = score.costs[which];
+        score.costs[which] = v;
+        return was;
+    }
+
+    public int span(int s) {
+        if (!isWithin(s, 0, MAX_SPAN)) return RANGE;
+        if (heard.count > 0) return STATE;
+        int was = score.span;
+        score.span = s;
+        return was;
+    }
+
+    // ---- a session
+
+    public int hear(int pitch, int time) {
+        if (!isWithin(pitch, 0, MAX_PITCH) || !isWithin(time, 0, MAX_TIME)) return RANGE;
+        if (time < heard.lastTime()) return RANGE;
+        if (score.notes == 0) return STATE;
+        if (heard.count >= MAX_EVENTS) return FULL;
+        // The score stands still while there are EVENTS, so NEXT is laid out with the first alone.
+        if (heard.count == 0) nexts.lay();
+        int event = heard.add(pitch, time);
+        following.follow(event);
+        anchors.look(event, following.placeNow());
+        best.known = false;
+        return following.placeNow();
+    }
+
+    public int cut(int n) {
+        if (!isWithin(n, 0, heard.count)) return RANGE;
+        heard.count = n;
+        anchors.count = 0;
+        for (int event = 0; event < n; event++) {
+            anchors.look(event, following.placeBehind(event));
+        }
+        best.known = false;
+        return following.placeNow();
+    }
+
+    public int valueOf(int place) {
+        if (place != NONE && !score.isNote(place)) return RANGE;
+        int value = following.valueNow(place);
+        return value >= NO_VALUE ? NONE : value;
+    }
+
+    public int tempo(int side) {
+        if (!isWithin(side, 0, 1)) return RANGE;
+        return lowestTerms(anchors.timeGone(), anchors.startGrown(), side);
+    }
+
+    public long ahead(int note) {
+        if (!score.isNote(note)) return RANGE;
+        if (anchors.count == 0) return STATE;
+        return anchors.expected(note);
+    }
+
+    // ---- the best of all
+
+    public int align() {
+        if (score.notes == 0) return STATE;
+        if (!best.known) best.find();
+        return best.sum;
+    }
+
+    public int step(int k, int what) {
+        if (!isWithin(what, 0, 3) || k < 0) return RANGE;
+        if (!best.known) return STATE;
+        if (k >= best.count) return RANGE;
+        return best.tell(k, what);
+    }
+
+    public int steps() {
+        return best.known ? best.count : STATE;
+    }
+
+    public int matched(int event) {
+        if (!isWithin(event, 0, heard.count - 1)) return RANGE;
+        return best.known ? best.matches[event] : STATE;
+    }
+
+    public int grade(int note, int what) {
+        if (!score.isNote(note) || !isWithin(what, 0, 2)) return RANGE;
+        if (!best.known) return STATE;
+        if (what == 0) return best.played[note];
+        return what == 1 ? best.right[note] : best.passed[note];
+    }
+
+    public int mean(int side) throws ArithmeticException {
+        if (!isWithin(side, 0, 1)) return RANGE;
+        if (!best.known) return STATE;
+        int played = sumOf(best.played, score.notes);
+        if (played == 0) throw new ArithmeticException("no note was played");
+        return lowestTerms(sumOf(best.right, score.notes), played, side);
+    }
+
+    public int end() {
+        if (!best.known || heard.count == 0) return STATE;
+        for (int note = 0; note < score.notes; note++) {
+            if (best.isFaultless(note)) boxes.raise(note);
+            else if (best.isTouched(note)) boxes.drop(note);
+        }
+        boxes.session++;
+        hearNothing();
+        return boxes.countDue(score.notes);
+    }
+
+    public int due(int k) {
+        if (k < 0) return RANGE;
+        return boxes.dueAt(k, score.notes);
+    }
+
+    public int of(int note, int what) {
+        if (!score.isNote(note)) return RANGE;
+        switch (what) {
+            case 0: return score.pitches[note];
+            case 1: return score.starts[note];
+            case 2: return boxes.box[note];
+            case 3: return boxes.dueFrom[note];
+            default: return RANGE;
+        }
+    }
+
+    public int told(int what) {
+        switch (what) {
+            case 0: return score.notes;
+            case 1: return score.ways;
+            case 2: return heard.count;
+            case 3: return following.placeNow();
+            case 4: return boxes.session;
+            case 5: return anchors.count;
+            case 6: return score.loopFirst;
+            case 7: return score.loopLast;
+            case 8: return score.span;
+            default: return RANGE;
+        }
+    }
+
+    private void hearNothing() {
+        heard.count = 0;
+        anchors.count = 0;
+        best.known = false;
+    }
+
+    private static boolean isWithin(int v, int least, int most) {
+        return v >= least && v <= most;
+    }
+
+    private static int sumOf(int[] row, int length) {
+        int sum = 0;
+        for (int i = 0; i < length && i < row.length; i++) sum += row[i];
+        return sum;
+    }
+
+    /** The upper (side 0) or lower (side 1) number of the fraction upper over lower. */
+    private static int lowestTerms(int upper, int lower, int side) {
+        int divisor = commonDivisor(upper, lower);
+        int number = side == 0 ? upper : lower;
+        return divisor == 0 ? number : number / divisor;
+    }
+
+    private static int commonDivisor(int a, int b) {
+        int x = a;
+        int y = b;
+        // Two rounds halve the numbers at least, so 64 rounds are enough for any two ints.
+        for (int round = 0; round < 64 && y != 0; round++) {
+            int left = x % y;
+            x = y;
+            y = left;
+        }
+        return x;
+    }
+
+    /** What the player reads: notes, WAYS and the LOOP, with the COSTS and the SPAN. */
+    private static final class Score {
+        final int[] pitches = new int[MAX_NOTES];
+        final int[] starts = new int[MAX_NOTES];
+        final int[] wayFrom = new int[MAX_WAYS];
+        final int[] wayTo = new int[MAX_WAYS];
+        final int[] costs = new int[FIRST_COSTS.length];
+        int notes;
+        int ways;
+        int loopFirst;
+        int loopLast;
+        int span;
+
+        Score() {
+            empty();
+        }
+
+        void empty() {
+            notes = 0;
+            ways = 0;
+            loopFirst = NONE;
+            loopLast = NONE;
+            span = FIRST_SPAN;
+            for (int i = 0; i < FIRST_COSTS.length; i++) costs[i] = FIRST_COSTS[i];
+        }
+
+        int addNote(int pitch, int start) {
+            pitches[notes] = pitch;
+            starts[notes] = start;
+            notes++;
+            return notes - 1;
+        }
+
+        int addWay(int from, int to) {
+            wayFrom[ways] = from;
+            wayTo[ways] = to;
+            ways++;
+            return ways - 1;
+        }
+
+        boolean isNote(int number) {
+            return number >= 0 && number < notes;
+        }
+
+        boolean hasWay(int from, int to) {
+            for (int i = 0; i < ways; i++) {
+                if (wayFrom[i] == from && wayTo[i] == to) return true;
+            }
+            return false;
+        }
+
+        boolean hasLoop() {
+            return loopFirst != NONE;
+        }
+
+        int lastStart() {
+            return notes == 0 ? NONE : starts[notes - 1];
+        }
+
+        /** The notes that are there are those from firstThere() to lastThere(). */
+        int firstThere() {
+            return hasLoop() ? loopFirst : 0;
+        }
+
+        int lastThere() {
+            return hasLoop() ? loopLast : notes - 1;
+        }
+
+        boolean isThere(int note) {
+            return note >= firstThere() && note <= lastThere();
+        }
+
+        int mistake(int note, int pitch) {
+            return pitches[note] == pitch ? 0 : costs[WRONG];
+        }
+    }
+
+    /** The EVENTS of the session. */
+    private static final class Heard {
+        final int[] pitches = new int[MAX_EVENTS];
+        final int[] times = new int[MAX_EVENTS];
+        int count;
+
+        int add(int pitch, int time) {
+            pitches[count] = pitch;
+            times[count] = time;
+            count++;
+            return count - 1;
+        }
+
+        int lastTime() {
+            return count == 0 ? 0 : times[count - 1];
+        }
+    }
+
+    /** NEXT of all places in one row: place by place upwards, those of a place in their order. */
+    private static final class Nexts {
+        private final Score score;
+        final int[] from = new int[MAX_NEXTS];
+        final int[] note = new int[MAX_NEXTS];
+        final int[] price = new int[MAX_NEXTS];
+        final int[] begin = new int[PLACES + 1];
+        int count;
+
+        Nexts(Score score) {
+            this.score = score;
+        }
+
+        void lay() {
+            count = 0;
+            for (int place = NONE; place < MAX_NOTES; place++) {
+                begin[place + 1] = count;
+                if (place == NONE || score.isThere(place)) layFrom(place);
+            }
+            begin[PLACES] = count;
+        }
+
+        private void layFrom(int place) {
+            int behind = place == NONE ? score.firstThere() : place + 1;
+            if (score.isThere(behind)) add(place, behind, 0);
+            if (score.hasLoop() && place == score.loopLast) add(place, score.loopFirst, 0);
+            for (int i = 0; i < score.ways; i++) {
+                if (score.wayFrom[i] == place && score.isThere(score.wayTo[i])) {
+                    add(place, score.wayTo[i], score.costs[WAY]);
+                }
+            }
+        }
+
+        private void add(int place, int to, int cost) {
+            if (count >= MAX_NEXTS) return;
+            from[count] = place;
+            note[count] = to;
+            price[count] = cost;
+            count++;
+        }
+
+        int beginOf(int place) {
+            return begin[place + 1];
+        }
+
+        int endOf(int place) {
+            return begin[place + 2];
+        }
+    }
+
+    /** THE PLACE and the VALUES behind each number of EVENTS, so that cut() has them at hand. */
+    private static final class Following {
+        private final Score score;
+        private final Nexts nexts;
+        private final Heard heard;
+        private final int[] values = new int[(MAX_EVENTS + 1) * PLACES];
+        private final int[] places = new int[MAX_EVENTS + 1];
+        private final int[] reach = new int[PLACES];
+
+        Following(Score score, Nexts nexts, Heard heard) {
+            this.score = score;
+            this.nexts = nexts;
+            this.heard = heard;
+            places[0] = NONE;
+            for (int i = 0; i < PLACES; i++) values[i] = NO_VALUE;
+            values[0] = 0;
+        }
+
+        int placeNow() {
+            return places[heard.count];
+        }
+
+        int placeBehind(int event) {
+            return places[event + 1];
+        }
+
+        int valueNow(int place) {
+            return values[heard.count * PLACES + place + 1];
+        }
+
+        void follow(int event) {
+            int row = (event + 1) * PLACES;
+            passOn(event * PLACES);
+            take(row, heard.pitches[event]);
+            places[event + 1] = nearestOfLeast(row, places[event] + 1);
+            forgetFar(row, places[event + 1]);
+        }
+
+        /** Fills reach: the least SUM of each place by any number of PASSES from the VALUES. */
+        private void passOn(int row) {
+            for (int i = 0; i < PLACES; i++) reach[i] = values[row + i];
+            boolean changed = true;
+            for (int round = 0; round < PLACES && changed; round++) changed = passOnce();
+        }
+
+        private boolean passOnce() {
+            boolean changed = false;
+            for (int i = 0; i < nexts.count; i++) {
+                int sum = reach[nexts.from[i] + 1] + nexts.price[i] + score.costs[SKIP];
+                int to = nexts.note[i] + 1;
+                if (sum < reach[to]) {
+                    reach[to] = sum;
+                    changed = true;
+                }
+            }
+            return changed;
+        }
+
+        private void take(int row, int pitch) {
+            int least = NO_VALUE;
+            for (int i = 0; i < PLACES; i++) {
+                least = Math.min(least, reach[i]);
+                values[row + i] = Math.min(NO_VALUE, reach[i] + score.costs[EXTRA]);
+            }
+            for (int note = score.firstThere(); note <= score.lastThere(); note++) {
+                lower(row, note, least + score.costs[LEAP] + score.mistake(note, pitch));
+            }
+            for (int i = 0; i < nexts.count; i++) {
+                int note = nexts.note[i];
+                int sum = reach[nexts.from[i] + 1] + nexts.price[i];
+                lower(row, note, sum + score.mistake(note, pitch));
+            }
+        }
+
+        private void lower(int row, int place, int sum) {
+            int at = row + place + 1;
+            values[at] = Math.min(values[at], sum);
+        }
+
+        private int nearestOfLeast(int row, int expected) {
+            int found = NONE;
+            for (int place = 0; place < MAX_NOTES; place++) {
+                int more = values[row + place + 1] - values[row + found + 1];
+                boolean nearer = Math.abs(place - expected) < Math.abs(found - expected);
+                if (more < 0 || more == 0 && nearer) found = place;
+            }
+            return found;
+        }
+
+        private void forgetFar(int row, int centre) {
+            for (int place = NONE; place < MAX_NOTES; place++) {
+                if (Math.abs(place - centre) > score.span) values[row + place + 1] = NO_VALUE;
+            }
+        }
+    }
+
+    /** The ANCHORS, which are one rising row of notes, so never more than there are notes. */
+    private static final class Anchors {
+        private static final int LATEST = 4;
+        private final Score score;
+        private final Heard heard;
+        private final int[] events = new int[MAX_NOTES];
+        private final int[] notes = new int[MAX_NOTES];
+        int count;
+
+        Anchors(Score score, Heard heard) {
+            this.score = score;
+            this.heard = heard;
+        }
+
+        void look(int event, int place) {
+            if (!score.isNote(place) || score.pitches[place] != heard.pitches[event]) return;
+            if (count > 0 && place <= notes[count - 1]) count = 0;
+            if (count >= MAX_NOTES) return;
+            events[count] = event;
+            notes[count] = place;
+            count++;
+        }
+
+        int timeGone() {
+            if (count < 2) return 1;
+            return heard.times[events[count - 1]] - heard.times[events[firstOfLatest()]];
+        }
+
+        /** A divisor, so 1 at least; the document's STARTS grow by that anyway. */
+        int startGrown() {
+            if (count < 2) return 1;
+            return Math.max(1, score.starts[notes[count - 1]] - score.starts[notes[firstOfLatest()]]);
+        }
+
+        long expected(int note) {
+            if (count == 0) return STATE;
+            long grows = score.starts[note] - score.starts[notes[count - 1]];
+            return heard.times[events[count - 1]] + Math.floorDiv(grows * timeGone(), (long) startGrown());
+        }
+
+        private int firstOfLatest() {
+            return Math.max(0, count - LATEST);
+        }
+    }
+
+    /** THE BEST: what is left to pay is found from the last EVENT back, then one COURSE is walked. */
+    private static final class Best {
+        private final Score score;
+        private final Nexts nexts;
+        private final Heard heard;
+        private final int[] rest = new int[(MAX_EVENTS + 1) * PLACES];
+        private final int[] kinds = new int[MAX_STEPS];
+        private final int[] places = new int[MAX_STEPS];
+        private final int[] events = new int[MAX_STEPS];
+        private final int[] prices = new int[MAX_STEPS];
+        final int[] matches = new int[MAX_EVENTS];
+        final int[] played = new int[MAX_NOTES];
+        final int[] right = new int[MAX_NOTES];
+        final int[] passed = new int[MAX_NOTES];
+        boolean known;
+        int sum;
+        int count;
+
+        Best(Score score, Nexts nexts, Heard heard) {
+            this.score = score;
+            this.nexts = nexts;
+            this.heard = heard;
+        }
+
+        void find() {
+            for (int i = 0; i < PLACES; i++) rest[heard.count * PLACES + i] = 0;
+            for (int event = heard.count - 1; event >= 0; event--) {
+                weighTaking(event);
+                weighPassing(event);
+            }
+            sum = restAt(0, NONE);
+            walk();
+            known = true;
+        }
+
+        int tell(int k, int what) {
+            switch (what) {
+                case 0: return kinds[k];
+                case 1: return places[k];
+                case 2: return events[k];
+                default: return prices[k];
+            }
+        }
+
+        boolean isTouched(int note) {
+            return played[note] > 0 || passed[note] > 0;
+        }
+
+        boolean isFaultless(int note) {
+            return played[note] > 0 && right[note] == played[note] && passed[note] == 0;
+        }
+
+        /** The least SUM from a place on, the EVENTS ahead of this one being taken. */
+        private int restAt(int event, int place) {
+            return rest[event * PLACES + place + 1];
+        }
+
+        private void lowerRest(int event, int place, int price) {
+            int at = event * PLACES + place + 1;
+            rest[at] = Math.min(rest[at], price);
+        }
+
+        private int playPrice(int next, int event) {
+            return nexts.price[next] + score.mistake(nexts.note[next], heard.pitches[event]);
+        }
+
+        private int leapPrice(int note, int event) {
+            return score.costs[LEAP] + score.mistake(note, heard.pitches[event]);
+        }
+
+        private int passPrice(int next) {
+            return nexts.price[next] + score.costs[SKIP];
+        }
+
+        private void weighTaking(int event) {
+            int leap = NO_VALUE;
+            for (int note = score.firstThere(); note <= score.lastThere(); note++) {
+                leap = Math.min(leap, leapPrice(note, event) + restAt(event + 1, note));
+            }
+            for (int place = NONE; place < MAX_NOTES; place++) {
+                int extra = score.costs[EXTRA] + restAt(event + 1, place);
+                rest[event * PLACES + place + 1] = Math.min(leap, extra);
+            }
+            for (int i = 0; i < nexts.count; i++) {
+                int price = playPrice(i, event) + restAt(event + 1, nexts.note[i]);
+                lowerRest(event, nexts.from[i], price);
+            }
+        }
+
+        private void weighPassing(int event) {
+            boolean changed = true;
+            for (int round = 0; round < PLACES && changed; round++) {
+                changed = false;
+                // Downwards, so that one round carries a price through a whole chain of notes.
+                for (int i = nexts.count - 1; i >= 0; i--) {
+                    int price = passPrice(i) + restAt(event, nexts.note[i]);
+                    if (price < restAt(event, nexts.from[i])) {
+                        lowerRest(event, nexts.from[i], price);
+                        changed = true;
+                    }
+                }
+            }
+        }
+
+        /** At each STEP the first of all that keep the least SUM is the one that is told. */
+        private void walk() {
+            forgetCourse();
+            int place = NONE;
+            int event = 0;
+            for (int k = 0; k < MAX_STEPS && event < heard.count; k++) {
+                boolean found = plays(event, place) || stays(event, place)
+                        || passes(event, place) || leaps(event, place);
+                if (!found) return;
+                place = places[k];
+                if (kinds[k] != KIND_PASS) event++;
+            }
+        }
+
+        private void forgetCourse() {
+            count = 0;
+            for (int note = 0; note < MAX_NOTES; note++) {
+                played[note] = 0;
+                right[note] = 0;
+                passed[note] = 0;
+            }
+        }
+
+        private boolean plays(int event, int place) {
+            for (int i = nexts.beginOf(place); i < nexts.endOf(place); i++) {
+                int note = nexts.note[i];
+                int price = playPrice(i, event);
+                if (price + restAt(event + 1, note) == restAt(event, place)) {
+                    return match(KIND_PLAY, note, event, price);
+                }
+            }
+            return false;
+        }
+
+        private boolean stays(int event, int place) {
+            int price = score.costs[EXTRA];
+            if (price + restAt(event + 1, place) != restAt(event, place)) return false;
+            matches[event] = NONE;
+            return record(KIND_EXTRA, place, event, price);
+        }
+
+        private boolean passes(int event, int place) {
+            for (int i = nexts.beginOf(place); i < nexts.endOf(place); i++) {
+                int note = nexts.note[i];
+                int price = passPrice(i);
+                if (price + restAt(event, note) == restAt(event, place)) {
+                    passed[note]++;
+                    return record(KIND_PASS, note, NONE, price);
+                }
+            }
+            return false;
+        }
+
+        private boolean leaps(int event, int place) {
+            for (int note = score.firstThere(); note <= score.lastThere(); note++) {
+                int price = leapPrice(note, event);
+                if (price + restAt(event + 1, note) == restAt(event, place)) {
+                    return match(KIND_LEAP, note, event, price);
+                }
+            }
+            return false;
+        }
+
+        private boolean match(int kind, int note, int event, int price) {
+            matches[event] = note;
+            played[note]++;
+            if (score.pitches[note] == heard.pitches[event]) right[note]++;
+            return record(kind, note, event, price);
+        }
+
+        private boolean record(int kind, int place, int event, int price) {
+            if (count >= MAX_STEPS) return false;
+            kinds[count] = kind;
+            places[count] = place;
+            events[count] = event;
+            prices[count] = price;
+            count++;
+            return true;
+        }
+    }
+
+    /** Which notes are DUE again, and the number of the session that runs. */
+    private static final class Boxes {
+        final int[] box = new int[MAX_NOTES];
+        final int[] dueFrom = new int[MAX_NOTES];
+        int session;
+
+        void open(int note) {
+            box[note] = 0;
+            dueFrom[note] = 0;
+        }
+
+        void raise(int note) {
+            put(note, Math.min(MAX_BOX, box[note] + 1));
+        }
+
+        void drop(int note) {
+            put(note, 0);
+        }
+
+        /** With each BOX the sessions until the note is DUE again are twice as many. */
+        private void put(int note, int to) {
+            box[note] = to;
+            dueFrom[note] = session + (1 << to);
+        }
+
+        int countDue(int notes) {
+            int count = 0;
+            for (int note = 0; note < notes; note++) {
+                if (dueFrom[note] <= session) count++;
+            }
+            return count;
+        }
+
+        int dueAt(int k, int notes) {
+            int left = k;
+            for (int level = 0; level <= MAX_BOX; level++) {
+                for (int note = 0; note < notes; note++) {
+                    if (box[note] != level || dueFrom[note] > session) continue;
+                    if (left == 0) return note;
+                    left--;
+                }
+            }
+            return NONE;
+        }
+    }
+}
