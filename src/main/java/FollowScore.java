@@ -373,11 +373,11 @@ public final class FollowScore {
 
         void lay() {
             count = 0;
-            for (int place = NONE; place < MAX_NOTES; place++) {
+            for (int place = NONE; place < score.notes; place++) {
                 begin[place + 1] = count;
                 if (place == NONE || score.isThere(place)) layFrom(place);
             }
-            begin[PLACES] = count;
+            begin[score.notes + 1] = count;
         }
 
         private void layFrom(int place) {
@@ -448,7 +448,7 @@ public final class FollowScore {
 
         /** Fills reach: the least SUM of each place by any number of PASSES from the VALUES. */
         private void passOn(int row) {
-            for (int i = 0; i < PLACES; i++) reach[i] = values[row + i];
+            for (int i = 0; i <= score.notes; i++) reach[i] = values[row + i];
             boolean changed = true;
             for (int round = 0; round < PLACES && changed; round++) changed = passOnce();
         }
@@ -468,7 +468,7 @@ public final class FollowScore {
 
         private void take(int row, int pitch) {
             int least = NO_VALUE;
-            for (int i = 0; i < PLACES; i++) {
+            for (int i = 0; i <= score.notes; i++) {
                 least = Math.min(least, reach[i]);
                 values[row + i] = Math.min(NO_VALUE, reach[i] + score.costs[EXTRA]);
             }
@@ -489,7 +489,7 @@ public final class FollowScore {
 
         private int nearestOfLeast(int row, int expected) {
             int found = NONE;
-            for (int place = 0; place < MAX_NOTES; place++) {
+            for (int place = 0; place < score.notes; place++) {
                 int more = values[row + place + 1] - values[row + found + 1];
                 boolean nearer = Math.abs(place - expected) < Math.abs(found - expected);
                 if (more < 0 || more == 0 && nearer) found = place;
@@ -498,7 +498,7 @@ public final class FollowScore {
         }
 
         private void forgetFar(int row, int centre) {
-            for (int place = NONE; place < MAX_NOTES; place++) {
+            for (int place = NONE; place < score.notes; place++) {
                 if (Math.abs(place - centre) > score.span) values[row + place + 1] = NO_VALUE;
             }
         }
@@ -551,14 +551,14 @@ public final class FollowScore {
 
     /** THE BEST: what is left to pay is found from the last EVENT back, then one COURSE is walked. */
     private static final class Best {
+        private static final int PLACE_MASK = 63, EVENT_AT = 6, EVENT_MASK = 127;
+        private static final int KIND_AT = 13, KIND_MASK = 3, PRICE_AT = 15;
         private final Score score;
         private final Nexts nexts;
         private final Heard heard;
         private final int[] rest = new int[(MAX_EVENTS + 1) * PLACES];
-        private final int[] kinds = new int[MAX_STEPS];
-        private final int[] places = new int[MAX_STEPS];
-        private final int[] events = new int[MAX_STEPS];
-        private final int[] prices = new int[MAX_STEPS];
+        /** Four small numbers of a STEP in one int, since a COURSE may have thousands of STEPS. */
+        private final int[] course = new int[MAX_STEPS];
         final int[] matches = new int[MAX_EVENTS];
         final int[] played = new int[MAX_NOTES];
         final int[] right = new int[MAX_NOTES];
@@ -574,7 +574,7 @@ public final class FollowScore {
         }
 
         void find() {
-            for (int i = 0; i < PLACES; i++) rest[heard.count * PLACES + i] = 0;
+            for (int i = 0; i <= score.notes; i++) rest[heard.count * PLACES + i] = 0;
             for (int event = heard.count - 1; event >= 0; event--) {
                 weighTaking(event);
                 weighPassing(event);
@@ -585,11 +585,12 @@ public final class FollowScore {
         }
 
         int tell(int k, int what) {
+            int packed = course[k];
             switch (what) {
-                case 0: return kinds[k];
-                case 1: return places[k];
-                case 2: return events[k];
-                default: return prices[k];
+                case 0: return packed >> KIND_AT & KIND_MASK;
+                case 1: return (packed & PLACE_MASK) - 1;
+                case 2: return (packed >> EVENT_AT & EVENT_MASK) - 1;
+                default: return packed >> PRICE_AT;
             }
         }
 
@@ -628,7 +629,7 @@ public final class FollowScore {
             for (int note = score.firstThere(); note <= score.lastThere(); note++) {
                 leap = Math.min(leap, leapPrice(note, event) + restAt(event + 1, note));
             }
-            for (int place = NONE; place < MAX_NOTES; place++) {
+            for (int place = NONE; place < score.notes; place++) {
                 int extra = score.costs[EXTRA] + restAt(event + 1, place);
                 rest[event * PLACES + place + 1] = Math.min(leap, extra);
             }
@@ -662,8 +663,8 @@ public final class FollowScore {
                 boolean found = plays(event, place) || stays(event, place)
                         || passes(event, place) || leaps(event, place);
                 if (!found) return;
-                place = places[k];
-                if (kinds[k] != KIND_PASS) event++;
+                place = tell(k, 1);
+                if (tell(k, 0) != KIND_PASS) event++;
             }
         }
 
@@ -725,10 +726,7 @@ public final class FollowScore {
 
         private boolean record(int kind, int place, int event, int price) {
             if (count >= MAX_STEPS) return false;
-            kinds[count] = kind;
-            places[count] = place;
-            events[count] = event;
-            prices[count] = price;
+            course[count] = price << PRICE_AT | kind << KIND_AT | event + 1 << EVENT_AT | place + 1;
             count++;
             return true;
         }
