@@ -692,7 +692,7 @@ public final class FollowScore {
             int price = score.costs[EXTRA];
             if (price + restAt(event + 1, place) != restAt(event, place)) return false;
             matches[event] = NONE;
-            return record(KIND_EXTRA, place, event, price);
+            return keepStep(KIND_EXTRA, place, event, price);
         }
 
         private boolean passes(int event, int place) {
@@ -701,7 +701,7 @@ public final class FollowScore {
                 int price = passPrice(i);
                 if (price + restAt(event, note) == restAt(event, place)) {
                     passed[note]++;
-                    return record(KIND_PASS, note, NONE, price);
+                    return keepStep(KIND_PASS, note, NONE, price);
                 }
             }
             return false;
@@ -721,10 +721,10 @@ public final class FollowScore {
             matches[event] = note;
             played[note]++;
             if (score.pitches[note] == heard.pitches[event]) right[note]++;
-            return record(kind, note, event, price);
+            return keepStep(kind, note, event, price);
         }
 
-        private boolean record(int kind, int place, int event, int price) {
+        private boolean keepStep(int kind, int place, int event, int price) {
             if (count >= MAX_STEPS) return false;
             course[count] = price << PRICE_AT | kind << KIND_AT | event + 1 << EVENT_AT | place + 1;
             count++;

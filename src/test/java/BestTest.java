@@ -13,6 +13,7 @@ public final class BestTest {
         tiesOfLeaps();
         inLoop();
         manySteps();
+        fullScore();
         spanIsNoMatter();
         refusals();
         matchedAndGrade();
@@ -176,6 +177,29 @@ public final class BestTest {
         Check.due("note 59", Scores.grades(x, 59), "120 120 0");
         Check.due("mean(0)", mean(x, 0), 1);
         Check.due("mean(1)", mean(x, 1), 1);
+    }
+
+    /** All notes, WAYS and EVENTS that there may be, and the LOOP over all. */
+    private static void fullScore() {
+        FollowScore x = new FollowScore();
+        for (int i = 0; i < 60; i++) x.note(i, i);
+        for (int i = 0; i < 12; i++) Check.due("way " + i, x.way(59, 20 + i), i);
+        x.loop(0, 59);
+        Scores.costs(x, 1000, 1000, 1000, 1, 1000);
+        for (int i = 0; i < 60; i++) x.hear(i, i);
+        Check.due("ANCHORS", x.told(5), 60);
+        for (int i = 31; i < 60; i++) Check.due("by the last WAY", x.hear(i, 100), i);
+        for (int i = 0; i < 31; i++) Check.due("by the LOOP", x.hear(i, 100), i);
+        Check.due("EVENTS", x.told(2), 120);
+        Check.due("SUM", x.align(), 1);
+        Check.due("STEPS", x.steps(), 120);
+        Check.due("by the WAY", x.step(60, 1) + " " + x.step(60, 3), "31 1");
+        Check.due("by the LOOP", x.step(89, 1) + " " + x.step(89, 3), "0 0");
+        Check.due("mean", mean(x, 0) + "/" + mean(x, 1), "1/1");
+        Check.due("grades of 59", Scores.grades(x, 59), "2 2 0");
+        Check.due("end()", x.end(), 0);
+        Check.due("the last note", Scores.box(x, 59), "1 2");
+        Check.due("due(0)", x.due(0), -1);
     }
 
     private static void spanIsNoMatter() {
