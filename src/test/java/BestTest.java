@@ -2,7 +2,6 @@
 public final class BestTest {
     private static final int RANGE = -2, STATE = -3;
     private static final int LEAST = Integer.MIN_VALUE, MOST = Integer.MAX_VALUE;
-    private static final long THROWN = -99;
 
     public static void main(String[] args) {
         withoutEvents();
@@ -21,14 +20,6 @@ public final class BestTest {
         Check.finish();
     }
 
-    private static long mean(FollowScore x, int side) {
-        try {
-            return x.mean(side);
-        } catch (ArithmeticException e) {
-            return THROWN;
-        }
-    }
-
     private static void withoutEvents() {
         FollowScore x = new FollowScore();
         Check.due("no notes", x.align(), STATE);
@@ -39,7 +30,7 @@ public final class BestTest {
         Check.due("no such STEP", x.step(0, 0), RANGE);
         Check.due("no such EVENT", x.matched(0), RANGE);
         Check.due("no grade", Scores.grades(x, 0), "0 0 0");
-        Check.due("no mean", mean(x, 0), THROWN);
+        Check.due("no mean", Scores.mean(x, 0), Scores.THROWN);
         Check.due("no end", x.end(), STATE);
         x.note(62, 1);
         Check.due("a note more", x.steps(), 0);
@@ -52,7 +43,7 @@ public final class BestTest {
         Check.due("align()", x.align(), 0);
         Check.due("no STEPS again", x.steps(), 0);
         Check.due("no grade again", Scores.grades(x, 0), "0 0 0");
-        Check.due("no mean again", mean(x, 1), THROWN);
+        Check.due("no mean again", Scores.mean(x, 1), Scores.THROWN);
     }
 
     private static void best(String what, FollowScore x, int sum, String course) {
@@ -175,8 +166,8 @@ public final class BestTest {
         Check.due("none behind it", x.step(7200, 0), RANGE);
         Check.due("note 58", Scores.grades(x, 58), "0 0 120");
         Check.due("note 59", Scores.grades(x, 59), "120 120 0");
-        Check.due("mean(0)", mean(x, 0), 1);
-        Check.due("mean(1)", mean(x, 1), 1);
+        Check.due("mean(0)", Scores.mean(x, 0), 1);
+        Check.due("mean(1)", Scores.mean(x, 1), 1);
     }
 
     /** All notes, WAYS and EVENTS that there may be, and the LOOP over all. */
@@ -195,7 +186,7 @@ public final class BestTest {
         Check.due("STEPS", x.steps(), 120);
         Check.due("by the WAY", x.step(60, 1) + " " + x.step(60, 3), "31 1");
         Check.due("by the LOOP", x.step(89, 1) + " " + x.step(89, 3), "0 0");
-        Check.due("mean", mean(x, 0) + "/" + mean(x, 1), "1/1");
+        Check.due("mean", Scores.meanOf(x), "1/1");
         Check.due("grades of 59", Scores.grades(x, 59), "2 2 0");
         Check.due("end()", x.end(), 0);
         Check.due("the last note", Scores.box(x, 59), "1 2");
@@ -254,8 +245,8 @@ public final class BestTest {
         Check.due(when + ": grade(0, 0)", x.grade(0, 0), STATE);
         Check.due(when + ": grade(0, 3)", x.grade(0, 3), RANGE);
         Check.due(when + ": grade(3, 0)", x.grade(3, 0), RANGE);
-        Check.due(when + ": mean(0)", mean(x, 0), STATE);
-        Check.due(when + ": mean(2)", mean(x, 2), RANGE);
+        Check.due(when + ": mean(0)", Scores.mean(x, 0), STATE);
+        Check.due(when + ": mean(2)", Scores.mean(x, 2), RANGE);
         Check.due(when + ": end()", x.end(), STATE);
     }
 
@@ -280,7 +271,7 @@ public final class BestTest {
         Check.due("grade(0, -1)", x.grade(0, -1), RANGE);
         Check.due("grade(0, 3)", x.grade(0, 3), RANGE);
         Check.due("grade most", x.grade(MOST, LEAST), RANGE);
-        Check.due("mean", mean(x, 0) + "/" + mean(x, 1), "6/7");
+        Check.due("mean", Scores.meanOf(x), "6/7");
     }
 
     private static void mean() {
@@ -288,21 +279,21 @@ public final class BestTest {
         Scores.costs(x, 1, 1000, 1000, 1000, 1000);
         Scores.hear(x, 60, 63, 64, 66);
         x.align();
-        Check.due("two of four", mean(x, 0) + "/" + mean(x, 1), "1/2");
+        Check.due("two of four", Scores.meanOf(x), "1/2");
         x.cut(0);
         Scores.hear(x, 61, 63, 65);
         x.align();
-        Check.due("never", mean(x, 0) + "/" + mean(x, 1), "0/1");
+        Check.due("never", Scores.meanOf(x), "0/1");
         x.cut(0);
         Scores.costs(x, 1000, 1, 1000, 1000, 1000);
         Scores.hear(x, 61, 63);
         x.align();
         Check.due("all EXTRA", Scores.course(x), "1 -1 0 1 | 1 -1 1 1");
-        Check.due("mean(0)", mean(x, 0), THROWN);
-        Check.due("mean(1)", mean(x, 1), THROWN);
-        Check.due("mean(2)", mean(x, 2), RANGE);
-        Check.due("mean(-1)", mean(x, -1), RANGE);
-        Check.due("mean least", mean(x, LEAST), RANGE);
+        Check.due("mean(0)", Scores.mean(x, 0), Scores.THROWN);
+        Check.due("mean(1)", Scores.mean(x, 1), Scores.THROWN);
+        Check.due("mean(2)", Scores.mean(x, 2), RANGE);
+        Check.due("mean(-1)", Scores.mean(x, -1), RANGE);
+        Check.due("mean least", Scores.mean(x, LEAST), RANGE);
         Check.due("still known", x.steps(), 2);
     }
 }

@@ -66,7 +66,7 @@ public final class ModelTest {
         for (int i = 0; i < 120; i++) hear();
         for (int p = -1; p < 60; p++) same("valueOf(" + p + ")", x.valueOf(p), model.valueOf(p));
         same("align()", x.align(), model.align());
-        for (int k = 0; k < 100; k++) lookAtStep(below(Math.max(1, x.steps() + 1)));
+        for (int k = 0; k < 45; k++) lookAtStep(below(Math.max(1, x.steps() + 1)));
         same("steps()", x.steps(), model.steps());
     }
 

@@ -2,6 +2,8 @@
 final class Scores {
     /** Pitches of a scale upwards; no two are the same. */
     static final int[] SCALE = {60, 62, 64, 65, 67, 69, 71, 72};
+    /** Stands for an ArithmeticException; no call answers it. */
+    static final long THROWN = -99;
 
     private Scores() {
     }
@@ -53,6 +55,35 @@ final class Scores {
             }
         }
         return text.toString();
+    }
+
+    /** What mean() answers, or THROWN for its ArithmeticException. */
+    static long mean(FollowScore x, int side) {
+        try {
+            return x.mean(side);
+        } catch (ArithmeticException e) {
+            return THROWN;
+        }
+    }
+
+    static String meanOf(FollowScore x) {
+        return mean(x, 0) + "/" + mean(x, 1);
+    }
+
+    static String tempo(FollowScore x) {
+        return x.tempo(0) + "/" + x.tempo(1);
+    }
+
+    /** As many notes as there may be: note i has the pitch i and the start i. */
+    static FollowScore sixty() {
+        FollowScore x = new FollowScore();
+        for (int i = 0; i < 60; i++) x.note(i, i);
+        return x;
+    }
+
+    /** So many EVENTS with one pitch at one time. */
+    static void hearOften(FollowScore x, int count, int pitch, int time) {
+        for (int i = 0; i < count; i++) x.hear(pitch, time);
     }
 
     /** How often a note was played, with its PITCH, passed. */
