@@ -361,11 +361,22 @@ public final class SessionSentencesTest {
         again.cut(2);
         for (int i = 2; i < 5; i++) again.hear(TUNE[i], 7 * i);
         s.due("cut and heard again", Sight.of(again), Sight.of(tune(5)));
+        FollowScore last = lastOfSixty(3);
+        s.due("cut(1) with all notes", last.cut(1), 59);
+        s.due("all behind it", Sight.of(last), Sight.of(lastOfSixty(1)));
         FollowScore full = fullHeard();
         s.due("cut(120) of all EVENTS", full.cut(120), 3);
         s.due("cut(119)", full.cut(119), 2);
         s.due("cut(1)", full.cut(1), 0);
         s.due("cut(0)", full.cut(0), NONE);
+    }
+
+    /** So many EVENTS with the PITCH of the last of all notes, LEAPS being without cost. */
+    private static FollowScore lastOfSixty(int events) {
+        FollowScore x = Scores.sixty();
+        x.cost(4, 0);
+        Scores.hearOften(x, events, 59, 0);
+        return x;
     }
 
     private static void cutKeepsTheRest() {
