@@ -21,8 +21,6 @@ public final class FollowScore {
     private static final int PLACES = MAX_NOTES + 1;
     /** Each place has one note behind it at most; one more NEXT for the LOOP, and the WAYS. */
     private static final int MAX_NEXTS = PLACES + 1 + MAX_WAYS;
-    /** Ahead of the STEP that takes an EVENT no place is passed twice, since each PASS costs. */
-    private static final int MAX_STEPS = MAX_EVENTS * PLACES;
     /** Stands for no VALUE: far above any SUM, and no sum with it leaves the ints. */
     private static final int NO_VALUE = 1000000000;
 
@@ -112,27 +110,23 @@ public final class FollowScore {
         if (heard.count >= MAX_EVENTS) return FULL;
         // The score stands still while there are EVENTS, so NEXT is laid out with the first alone.
         if (heard.count == 0) nexts.lay();
-        int event = heard.add(pitch, time);
-        following.follow(event);
-        anchors.look(event, following.placeNow());
+        followOn(heard.add(pitch, time));
         best.known = false;
-        return following.placeNow();
+        return following.place;
     }
 
     public int cut(int n) {
         if (!isWithin(n, 0, heard.count)) return RANGE;
+        // To hear them again needs no rows for the VALUES behind each EVENT.
+        hearNothing();
         heard.count = n;
-        anchors.count = 0;
-        for (int event = 0; event < n; event++) {
-            anchors.look(event, following.placeBehind(event));
-        }
-        best.known = false;
-        return following.placeNow();
+        for (int event = 0; event < n; event++) followOn(event);
+        return following.place;
     }
 
     public int valueOf(int place) {
         if (place != NONE && !score.isNote(place)) return RANGE;
-        int value = following.valueNow(place);
+        int value = following.valueAt(place);
         return value >= NO_VALUE ? NONE : value;
     }
 
@@ -218,7 +212,7 @@ public final class FollowScore {
             case 0: return score.notes;
             case 1: return score.ways;
             case 2: return heard.count;
-            case 3: return following.placeNow();
+            case 3: return following.place;
             case 4: return boxes.session;
             case 5: return anchors.count;
             case 6: return score.loopFirst;
@@ -230,8 +224,14 @@ public final class FollowScore {
 
     private void hearNothing() {
         heard.count = 0;
+        following.begin();
         anchors.count = 0;
         best.known = false;
+    }
+
+    private void followOn(int event) {
+        following.follow(event);
+        anchors.look(event, following.place);
     }
 
     private static boolean isWithin(int v, int least, int most) {
@@ -408,47 +408,42 @@ public final class FollowScore {
         }
     }
 
-    /** THE PLACE and the VALUES behind each number of EVENTS, so that cut() has them at hand. */
+    /** THE PLACE and the VALUES, as they are behind the latest EVENT. */
     private static final class Following {
         private final Score score;
         private final Nexts nexts;
         private final Heard heard;
-        private final int[] values = new int[(MAX_EVENTS + 1) * PLACES];
-        private final int[] places = new int[MAX_EVENTS + 1];
+        private final int[] values = new int[PLACES];
         private final int[] reach = new int[PLACES];
+        int place;
 
         Following(Score score, Nexts nexts, Heard heard) {
             this.score = score;
             this.nexts = nexts;
             this.heard = heard;
-            places[0] = NONE;
+            begin();
+        }
+
+        void begin() {
             for (int i = 0; i < PLACES; i++) values[i] = NO_VALUE;
             values[0] = 0;
+            place = NONE;
         }
 
-        int placeNow() {
-            return places[heard.count];
-        }
-
-        int placeBehind(int event) {
-            return places[event + 1];
-        }
-
-        int valueNow(int place) {
-            return values[heard.count * PLACES + place + 1];
+        int valueAt(int at) {
+            return values[at + 1];
         }
 
         void follow(int event) {
-            int row = (event + 1) * PLACES;
-            passOn(event * PLACES);
-            take(row, heard.pitches[event]);
-            places[event + 1] = nearestOfLeast(row, places[event] + 1);
-            forgetFar(row, places[event + 1]);
+            passOn();
+            take(heard.pitches[event]);
+            place = nearestOfLeast(place + 1);
+            forgetFar();
         }
 
         /** Fills reach: the least SUM of each place by any number of PASSES from the VALUES. */
-        private void passOn(int row) {
-            for (int i = 0; i <= score.notes; i++) reach[i] = values[row + i];
+        private void passOn() {
+            for (int i = 0; i <= score.notes; i++) reach[i] = values[i];
             boolean changed = true;
             for (int round = 0; round < PLACES && changed; round++) changed = passOnce();
         }
@@ -466,40 +461,39 @@ public final class FollowScore {
             return changed;
         }
 
-        private void take(int row, int pitch) {
+        private void take(int pitch) {
             int least = NO_VALUE;
             for (int i = 0; i <= score.notes; i++) {
                 least = Math.min(least, reach[i]);
-                values[row + i] = Math.min(NO_VALUE, reach[i] + score.costs[EXTRA]);
+                values[i] = Math.min(NO_VALUE, reach[i] + score.costs[EXTRA]);
             }
             for (int note = score.firstThere(); note <= score.lastThere(); note++) {
-                lower(row, note, least + score.costs[LEAP] + score.mistake(note, pitch));
+                lower(note, least + score.costs[LEAP] + score.mistake(note, pitch));
             }
             for (int i = 0; i < nexts.count; i++) {
                 int note = nexts.note[i];
                 int sum = reach[nexts.from[i] + 1] + nexts.price[i];
-                lower(row, note, sum + score.mistake(note, pitch));
+                lower(note, sum + score.mistake(note, pitch));
             }
         }
 
-        private void lower(int row, int place, int sum) {
-            int at = row + place + 1;
-            values[at] = Math.min(values[at], sum);
+        private void lower(int note, int sum) {
+            values[note + 1] = Math.min(values[note + 1], sum);
         }
 
-        private int nearestOfLeast(int row, int expected) {
+        private int nearestOfLeast(int expected) {
             int found = NONE;
-            for (int place = 0; place < score.notes; place++) {
-                int more = values[row + place + 1] - values[row + found + 1];
-                boolean nearer = Math.abs(place - expected) < Math.abs(found - expected);
-                if (more < 0 || more == 0 && nearer) found = place;
+            for (int note = 0; note < score.notes; note++) {
+                int more = valueAt(note) - valueAt(found);
+                boolean nearer = Math.abs(note - expected) < Math.abs(found - expected);
+                if (more < 0 || more == 0 && nearer) found = note;
             }
             return found;
         }
 
-        private void forgetFar(int row, int centre) {
-            for (int place = NONE; place < score.notes; place++) {
-                if (Math.abs(place - centre) > score.span) values[row + place + 1] = NO_VALUE;
+        private void forgetFar() {
+            for (int at = NONE; at < score.notes; at++) {
+                if (Math.abs(at - place) > score.span) values[at + 1] = NO_VALUE;
             }
         }
     }
@@ -549,16 +543,18 @@ public final class FollowScore {
         }
     }
 
-    /** THE BEST: what is left to pay is found from the last EVENT back, then one COURSE is walked. */
+    /**
+     * THE BEST: what is left to pay is found from the last EVENT back, then one COURSE is walked. It
+     * may have thousands of STEPS, so only where each EVENT begins is kept, and STEPS are told by
+     * walking on from there.
+     */
     private static final class Best {
-        private static final int PLACE_MASK = 63, EVENT_AT = 6, EVENT_MASK = 127;
-        private static final int KIND_AT = 13, KIND_MASK = 3, PRICE_AT = 15;
         private final Score score;
         private final Nexts nexts;
         private final Heard heard;
         private final int[] rest = new int[(MAX_EVENTS + 1) * PLACES];
-        /** Four small numbers of a STEP in one int, since a COURSE may have thousands of STEPS. */
-        private final int[] course = new int[MAX_STEPS];
+        private final int[] stepsAhead = new int[MAX_EVENTS];
+        private final int[] placeAhead = new int[MAX_EVENTS];
         final int[] matches = new int[MAX_EVENTS];
         final int[] played = new int[MAX_NOTES];
         final int[] right = new int[MAX_NOTES];
@@ -566,6 +562,10 @@ public final class FollowScore {
         boolean known;
         int sum;
         int count;
+        /** The STEP that was chosen last: its kind, the place to which it goes, its cost. */
+        private int stepKind;
+        private int stepTo;
+        private int stepCost;
 
         Best(Score score, Nexts nexts, Heard heard) {
             this.score = score;
@@ -585,12 +585,17 @@ public final class FollowScore {
         }
 
         int tell(int k, int what) {
-            int packed = course[k];
+            int event = eventOf(k);
+            int place = placeAhead[event];
+            for (int i = stepsAhead[event]; i <= k; i++) {
+                choose(event, place);
+                place = stepTo;
+            }
             switch (what) {
-                case 0: return packed >> KIND_AT & KIND_MASK;
-                case 1: return (packed & PLACE_MASK) - 1;
-                case 2: return (packed >> EVENT_AT & EVENT_MASK) - 1;
-                default: return packed >> PRICE_AT;
+                case 0: return stepKind;
+                case 1: return stepTo;
+                case 2: return stepKind == KIND_PASS ? NONE : event;
+                default: return stepCost;
             }
         }
 
@@ -654,17 +659,13 @@ public final class FollowScore {
             }
         }
 
-        /** At each STEP the first of all that keep the least SUM is the one that is told. */
         private void walk() {
             forgetCourse();
             int place = NONE;
-            int event = 0;
-            for (int k = 0; k < MAX_STEPS && event < heard.count; k++) {
-                boolean found = plays(event, place) || stays(event, place)
-                        || passes(event, place) || leaps(event, place);
-                if (!found) return;
-                place = tell(k, 1);
-                if (tell(k, 0) != KIND_PASS) event++;
+            for (int event = 0; event < heard.count; event++) {
+                stepsAhead[event] = count;
+                placeAhead[event] = place;
+                place = walkThrough(event, place);
             }
         }
 
@@ -677,57 +678,77 @@ public final class FollowScore {
             }
         }
 
+        /** By PASSES and the STEP that takes the EVENT: where that goes to. */
+        private int walkThrough(int event, int from) {
+            int place = from;
+            // No place is passed twice on the way to an EVENT, since each PASS costs.
+            for (int i = 0; i < PLACES; i++) {
+                choose(event, place);
+                place = stepTo;
+                count++;
+                if (stepKind != KIND_PASS) break;
+                passed[place]++;
+            }
+            match(event);
+            return place;
+        }
+
+        private void match(int event) {
+            boolean none = stepKind == KIND_EXTRA;
+            matches[event] = none ? NONE : stepTo;
+            if (none) return;
+            played[stepTo]++;
+            if (score.pitches[stepTo] == heard.pitches[event]) right[stepTo]++;
+        }
+
+        /** The EVENT that STEP k takes; of a PASS the one to which it is on the way. */
+        private int eventOf(int k) {
+            for (int event = heard.count - 1; event > 0; event--) {
+                if (stepsAhead[event] <= k) return event;
+            }
+            return 0;
+        }
+
+        /** Of all STEPS that keep the least SUM the one that the document tells first. */
+        private void choose(int event, int place) {
+            if (plays(event, place) || stays(event, place) || passes(event, place)) return;
+            leaps(event, place);
+        }
+
         private boolean plays(int event, int place) {
             for (int i = nexts.beginOf(place); i < nexts.endOf(place); i++) {
-                int note = nexts.note[i];
-                int price = playPrice(i, event);
-                if (price + restAt(event + 1, note) == restAt(event, place)) {
-                    return match(KIND_PLAY, note, event, price);
-                }
+                int allowed = restAt(event, place) - restAt(event + 1, nexts.note[i]);
+                if (playPrice(i, event) == allowed) return chosen(KIND_PLAY, nexts.note[i], allowed);
             }
             return false;
         }
 
         private boolean stays(int event, int place) {
-            int price = score.costs[EXTRA];
-            if (price + restAt(event + 1, place) != restAt(event, place)) return false;
-            matches[event] = NONE;
-            return keepStep(KIND_EXTRA, place, event, price);
+            int allowed = restAt(event, place) - restAt(event + 1, place);
+            if (score.costs[EXTRA] != allowed) return false;
+            return chosen(KIND_EXTRA, place, allowed);
         }
 
         private boolean passes(int event, int place) {
             for (int i = nexts.beginOf(place); i < nexts.endOf(place); i++) {
-                int note = nexts.note[i];
-                int price = passPrice(i);
-                if (price + restAt(event, note) == restAt(event, place)) {
-                    passed[note]++;
-                    return keepStep(KIND_PASS, note, NONE, price);
-                }
+                int allowed = restAt(event, place) - restAt(event, nexts.note[i]);
+                if (passPrice(i) == allowed) return chosen(KIND_PASS, nexts.note[i], allowed);
             }
             return false;
         }
 
         private boolean leaps(int event, int place) {
             for (int note = score.firstThere(); note <= score.lastThere(); note++) {
-                int price = leapPrice(note, event);
-                if (price + restAt(event + 1, note) == restAt(event, place)) {
-                    return match(KIND_LEAP, note, event, price);
-                }
+                int allowed = restAt(event, place) - restAt(event + 1, note);
+                if (leapPrice(note, event) == allowed) return chosen(KIND_LEAP, note, allowed);
             }
             return false;
         }
 
-        private boolean match(int kind, int note, int event, int price) {
-            matches[event] = note;
-            played[note]++;
-            if (score.pitches[note] == heard.pitches[event]) right[note]++;
-            return keepStep(kind, note, event, price);
-        }
-
-        private boolean keepStep(int kind, int place, int event, int price) {
-            if (count >= MAX_STEPS) return false;
-            course[count] = price << PRICE_AT | kind << KIND_AT | event + 1 << EVENT_AT | place + 1;
-            count++;
+        private boolean chosen(int kind, int to, int cost) {
+            stepKind = kind;
+            stepTo = to;
+            stepCost = cost;
             return true;
         }
     }

@@ -1,7 +1,10 @@
+import java.io.IOException;
 import java.lang.reflect.Constructor;
 import java.lang.reflect.Field;
 import java.lang.reflect.Method;
 import java.lang.reflect.Modifier;
+import java.nio.file.Files;
+import java.nio.file.Path;
 import java.util.TreeSet;
 
 /** The public face is the document's, and nothing else can be seen from outside. */
@@ -10,15 +13,19 @@ public final class FaceTest {
         "void clear()", "int note(int,int)", "int way(int,int)", "int loop(int,int)", "int cost(int,int)",
         "int span(int)", "int hear(int,int)", "int cut(int)", "int valueOf(int)", "int tempo(int)",
         "long ahead(int)", "int align()", "int step(int,int)", "int steps()", "int matched(int)",
-        "int grade(int,int)", "int mean(int)", "int end()", "int due(int)", "int of(int,int)", "int told(int)",
+        "int grade(int,int)", "int mean(int) throws ArithmeticException", "int end()", "int due(int)",
+        "int of(int,int)", "int told(int)",
     };
+    private static final Path DOCUMENT = Path.of("..", "shared", "DOC.md");
 
-    public static void main(String[] args) {
+    public static void main(String[] args) throws IOException {
         Check.isTrue("the class is public", Modifier.isPublic(FollowScore.class.getModifiers()));
         Check.isTrue("the class is final", Modifier.isFinal(FollowScore.class.getModifiers()));
         constants();
         constructors();
         methods();
+        classesInside();
+        faceOfTheDocument();
         Check.finish();
     }
 
@@ -66,10 +73,41 @@ public final class FaceTest {
 
     private static String told(Method method) {
         StringBuilder text = new StringBuilder();
+        StringBuilder thrown = new StringBuilder();
         for (Class<?> type : method.getParameterTypes()) {
             if (text.length() > 0) text.append(',');
             text.append(type.getName());
         }
-        return method.getReturnType().getName() + " " + method.getName() + "(" + text + ")";
+        for (Class<?> type : method.getExceptionTypes()) thrown.append(" throws ").append(type.getSimpleName());
+        return method.getReturnType().getName() + " " + method.getName() + "(" + text + ")" + thrown;
+    }
+
+    private static void classesInside() {
+        for (Class<?> inside : FollowScore.class.getDeclaredClasses()) {
+            Check.isTrue(inside.getName() + " is static", Modifier.isStatic(inside.getModifiers()));
+            Check.isTrue(inside.getName() + " is not seen", Modifier.isPrivate(inside.getModifiers()));
+        }
+    }
+
+    /** The lists above are the document's own. */
+    private static void faceOfTheDocument() throws IOException {
+        if (!Files.exists(DOCUMENT)) {
+            System.out.println("no " + DOCUMENT + ": the face is not looked up");
+            return;
+        }
+        String document = Files.readString(DOCUMENT);
+        int from = document.indexOf("```java");
+        String face = document.substring(from, document.indexOf("}", from));
+        TreeSet<String> told = new TreeSet<>();
+        for (String line : face.split("\n")) {
+            if (!line.contains("(") || line.contains("FollowScore(")) continue;
+            told.add(line.trim().replace("public ", "").replace(";", "").replaceAll("int (\\w+)([,)])", "int$2")
+                    .replace(", ", ","));
+        }
+        Check.due("the document's methods", told.toString(), new TreeSet<>(java.util.List.of(METHODS)).toString());
+        Check.isTrue("the class", face.contains("public final class FollowScore {"));
+        Check.isTrue("the constructor", face.contains("public FollowScore();"));
+        Check.isTrue("the constants",
+                face.contains("public static final int NONE = -1, RANGE = -2, STATE = -3, FULL = -4;"));
     }
 }

@@ -7,12 +7,14 @@ import java.util.function.Supplier;
 import java.util.function.ToLongFunction;
 
 /**
- * A sentence of the document, with the number of the promise that it belongs to. What is not as due
- * is printed with both, and covered() sees to it that no words of a promise are left out.
+ * A sentence of the document, with the number of the promise that it belongs to (HEAD: it stands ahead
+ * of them). What is not as due is printed with both, and covered() sees to it that no words are left out.
  */
 final class Sentence {
     private static final Path DOCUMENT = Path.of("..", "shared", "DOC.md");
     private static final int PROMISES = 22;
+    /** In place of a promise's number: 'What it is' and 'Terms'. */
+    static final int HEAD = 0;
     private static final List<Sentence> ALL = new ArrayList<>();
 
     private final int promise;
@@ -40,7 +42,7 @@ final class Sentence {
     }
 
     private String told(String call) {
-        return "promise " + promise + ", '" + words + "': " + call;
+        return where(promise) + ", '" + words + "': " + call;
     }
 
     /** Each sentence stands in the document, and those of these promises are there with all words. */
@@ -55,8 +57,12 @@ final class Sentence {
             Check.isTrue(sentence.told("stands in the document"), text.contains(plain(sentence.words)));
         }
         for (int promise = firstPromise; promise <= lastPromise; promise++) {
-            Check.due("promise " + promise + ": words without a test", left(document, promise), "");
+            Check.due(where(promise) + ": words without a test", left(document, promise), "");
         }
+    }
+
+    private static String where(int promise) {
+        return promise == HEAD ? "ahead of promise 1" : "promise " + promise;
     }
 
     private static String plain(String text) {
@@ -67,7 +73,14 @@ final class Sentence {
         return document.substring(0, document.indexOf("## Promise 1:"));
     }
 
+    private static String part(String document, String heading, String next) {
+        return document.substring(document.indexOf(heading) + heading.length(), document.indexOf(next));
+    }
+
     private static String section(String document, int promise) {
+        if (promise == HEAD) {
+            return part(document, "## What it is", "## The public face") + part(document, "## Terms", "## Promise 1:");
+        }
         int from = document.indexOf("## Promise " + promise + ":");
         String behind = promise < PROMISES ? "## Promise " + (promise + 1) + ":" : "## Not promised";
         String whole = document.substring(from, document.indexOf(behind));
