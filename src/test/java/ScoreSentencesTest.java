@@ -201,6 +201,7 @@ public final class ScoreSentencesTest {
         clearOfAFullObject();
         clearOfLaterSessions();
         clearWithLoopAndBest();
+        clearOfWays();
     }
 
     private static void clearOfNothing() {
@@ -276,6 +277,24 @@ public final class ScoreSentencesTest {
         s.due("note 0 may start at 0 again", y.note(60, 0), 0);
         s.due("steps()", y.steps(), STATE);
         s.due("the TIME may be 0 again", y.hear(60, 0), 0);
+    }
+
+    /** Note 1 twice: with the WAY note 0 is passed on the way back, without it the second one is EXTRA. */
+    private static int sumOfTheLastNoteTwice(FollowScore x, boolean withWay) {
+        x.note(60, 0);
+        x.note(62, 1);
+        if (withWay) x.way(1, 0);
+        Scores.costs(x, 1000, 900, 1, 1, 1000);
+        Scores.hear(x, 60, 62, 62);
+        return x.align();
+    }
+
+    private static void clearOfWays() {
+        Sentence s = new Sentence(2, AS_AT_FIRST);
+        FollowScore x = new FollowScore();
+        s.due("back by a WAY", sumOfTheLastNoteTwice(x, true), 2);
+        x.clear();
+        s.due("no WAY any more", sumOfTheLastNoteTwice(x, false), 900);
     }
 
     // ---- promise 3
