@@ -2,8 +2,8 @@ import java.util.ArrayList;
 import java.util.List;
 
 /**
- * The document's COURSES and VALUES by its words alone: every COURSE is walked, STEP by STEP, in the
- * order that decides among equals; nothing is weighed beforehand. For small scores only.
+ * The document's COURSES and VALUES by its words alone: every COURSE up to the least SUM is walked, STEP
+ * by STEP, in the order that decides among equals; nothing is weighed beforehand. For small scores only.
  */
 final class Courses {
     private static final int NONE = -1;

@@ -1,4 +1,4 @@
-/** THE BEST and the VALUES of many small scores against all COURSES, written out one by one. */
+/** THE BEST and the VALUES of many small scores against all COURSES up to the least SUM, one by one. */
 public final class CoursesTest {
     private long seed = 916;
 
